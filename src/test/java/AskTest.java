@@ -261,6 +261,9 @@ public final class AskTest {
         Check.due("there without records", desk.answer("a.ex.", 1, true), "0 | - | " + START + "; ex. 47 300 b.a.ex. 6 46 47 | -");
         Check.due("there without records, all", desk.answer("a.ex.", 255, true),
                 "0 | - | " + START + "; ex. 47 300 b.a.ex. 6 46 47 | -");
+        desk.put("m.l.ex.", 1, 5, address(1));
+        Check.due("over it is a name with records", desk.answer("l.ex.", 1, true),
+                "0 | - | " + START + "; k.ex. 47 300 m.l.ex. 1 46 47 | -");
         Check.due("6 at another name", desk.answer("k.ex.", 6, false), "0 | - | " + START + " | -");
         desk.put("d.ex.", 2, 5, Desk.name("far."));
         desk.put("x.d.ex.", 1, 5, address(1));

@@ -151,6 +151,9 @@ public final class ReadingTest {
         Check.due("the chain is longer", desk.zone.count(5), 5);
         desk.takeAll("b.a.t.s.ex.", 255);
         Check.due("what is there", desk.zone.count(4), 6);
+        desk.origin("ex.", 1, 1);
+        desk.put("a.ex.", 2, 1, Desk.name("far."));
+        Check.due("a cut right behind the origin", desk.zone.count(6), 1);
         desk.tape(Desk.bytes(1, 2, 3));
         Check.due("count(0)", desk.zone.count(0), 3);
     }

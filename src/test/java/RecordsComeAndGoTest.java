@@ -128,6 +128,7 @@ public final class RecordsComeAndGoTest {
         Check.due("numbers in data stay", desk.answer("n.", 15, false), "0 | n. 15 1 #4142 az[@. | - | -");
         Check.due("other numbers are others", desk.put("n.", 15, 1, Desk.bytes(97, 98), Desk.name("az[@.")), 2);
         Check.due("strings stay", desk.put("n.", 16, 1, Desk.bytes(1, 65)), 1);
+        Check.due("strings once more", desk.put("n.", 16, 1, Desk.bytes(1, 65)), 1);
         Check.due("strings in lower case are others", desk.put("n.", 16, 1, Desk.bytes(1, 97)), 2);
         Check.due("33", desk.put("n.", 33, 1, Desk.bytes(65, 65, 65, 65, 65, 65), Desk.name("A.")), 1);
         Check.due("33 in lower case", desk.put("n.", 33, 1, Desk.bytes(65, 65, 65, 65, 65, 65), Desk.name("a.")), 1);
@@ -152,6 +153,9 @@ public final class RecordsComeAndGoTest {
         Check.due("a name of 255", putRaw(desk, Desk.name(most + Desk.letters(61) + ".")), 1);
         Check.due("a name of 256", putRaw(desk, Desk.name(most + Desk.letters(62) + ".")), BAD);
         Check.due("a name of 257", putRaw(desk, Desk.name(most + Desk.letters(63) + ".")), BAD);
+        byte[] longest = Desk.name(most + Desk.letters(61) + ".");
+        Check.due("a name of 255 behind one", new Desk().put(most, 15, 1, new byte[2], longest), 1);
+        Check.due("three names of 255", new Desk().originOf(1, 1, longest, longest, longest), "done");
         Check.due("127 labels", putRaw(desk, Desk.name("a.".repeat(127))), 1);
         Check.due("128 labels", putRaw(desk, Desk.name("a.".repeat(128))), BAD);
         Check.due("count of names", desk.zone.count(3), 3);
