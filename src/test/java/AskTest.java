@@ -2,26 +2,8 @@
 public final class AskTest {
     private static final String START = "ex. 6 300 ns.ex. adm. 1 7200 900 1209600 300";
 
-    public static void main(String[] args) {
-        refuses();
-        outside();
-        found();
-        cuts();
-        cutsWithAddresses();
-        signerOfCut();
-        noName();
-        stars();
-        starsGivenAway();
-        aliases();
-        aliasesBeyond();
-        nineAliases();
-        nothingOfThatType();
-        addresses();
-        addressesOnce();
-        linkTimes();
-        linkTypes();
-        orderOfNames();
-        Check.end();
+    public static void main(String[] args) throws IllegalAccessException {
+        Check.all(AskTest.class);
     }
 
     private static Desk zone() {

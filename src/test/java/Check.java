@@ -1,8 +1,12 @@
+import java.lang.reflect.InvocationTargetException;
+import java.lang.reflect.Method;
+import java.lang.reflect.Modifier;
 import java.util.Objects;
 
-/** Compares answers with those that are due, and ends a test. */
+/** Runs the tests of a class, compares answers with those that are due, and ends. */
 final class Check {
     private static int wrong = 0;
+    private static String sentence = "";
 
     interface Call {
         Object run();
@@ -11,10 +15,34 @@ final class Check {
     private Check() {
     }
 
+    /** Runs every test method of a class: what one throws is its own fault alone, and the others go on. */
+    static void all(Class<?> tests) throws IllegalAccessException {
+        for (Method method : tests.getDeclaredMethods()) {
+            boolean isTest = Modifier.isStatic(method.getModifiers()) && method.getParameterCount() == 0
+                    && method.getReturnType() == void.class && !method.isSynthetic();
+            if (isTest) {
+                sentence = method.getName() + ": ";
+                method.setAccessible(true);
+                try {
+                    method.invoke(null);
+                } catch (InvocationTargetException e) {
+                    wrong++;
+                    System.out.println(sentence + "broke off by " + e.getCause());
+                }
+            }
+        }
+        end();
+    }
+
+    /** The document's sentence that the answers from here on are about. */
+    static void sentence(String words) {
+        sentence = "\"" + words + "\": ";
+    }
+
     static void due(String call, Object got, Object want) {
         if (!Objects.equals(got, want)) {
             wrong++;
-            System.out.println(call + " answered " + got + ", due is " + want);
+            System.out.println(sentence + call + " answered " + got + ", due is " + want);
         }
     }
 

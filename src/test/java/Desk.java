@@ -37,15 +37,23 @@ final class Desk {
         return "x".repeat(n);
     }
 
-    /** Makes the tape just these bytes. */
+    /** Makes the tape just these bytes; the odd ones come first, so that it can be filled to its last byte. */
     Desk tape(byte[]... parts) {
         byte[] all = join(parts);
+        int odd = all.length % 20;
         zone.end(0);
-        for (int at = 0; at < all.length; at += 20) {
-            zone.feed(number(all, at), number(all, at + 4), number(all, at + 8), number(all, at + 12), number(all, at + 16));
+        if (odd > 0) {
+            feed(all, 0);
+            zone.end(odd);
         }
-        zone.end(all.length);
+        for (int at = odd; at < all.length; at += 20) {
+            feed(all, at);
+        }
         return this;
+    }
+
+    private void feed(byte[] row, int at) {
+        zone.feed(number(row, at), number(row, at + 4), number(row, at + 8), number(row, at + 12), number(row, at + 16));
     }
 
     private static int number(byte[] row, int at) {

@@ -1,14 +1,7 @@
 /** Promises 10 to 14: records, told, byteOf, state, count. */
 public final class ReadingTest {
-    public static void main(String[] args) {
-        beforeAnyAnswering();
-        records();
-        told();
-        toldAsItWas();
-        byteOf();
-        state();
-        counts();
-        Check.end();
+    public static void main(String[] args) throws IllegalAccessException {
+        Check.all(ReadingTest.class);
     }
 
     private static Desk asked() {

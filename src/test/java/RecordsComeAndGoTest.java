@@ -2,20 +2,8 @@
 public final class RecordsComeAndGoTest {
     private static final String BAD = "IllegalArgumentException";
 
-    public static void main(String[] args) {
-        origin();
-        originRefuses();
-        putAnswers();
-        putTypes();
-        putData();
-        putNames();
-        putBesideAlias();
-        putFull();
-        putOrderOfExceptions();
-        take();
-        takeAll();
-        serial();
-        Check.end();
+    public static void main(String[] args) throws IllegalAccessException {
+        Check.all(RecordsComeAndGoTest.class);
     }
 
     private static void origin() {
@@ -62,80 +50,6 @@ public final class RecordsComeAndGoTest {
         Check.due("time below 0", desk.put("a.", 1, -1, Desk.bytes(1, 1, 1, 1)), BAD);
         Check.due("the tape stays", desk.zone.count(0), 7);
         Check.due("count of records", desk.zone.count(1), 5);
-    }
-
-    private static void putTypes() {
-        Desk desk = new Desk();
-        int[] never = {-1, 0, 6, 41, 46, 47, 48, 249, 250, 251, 252, 253, 254, 255, 65536, Integer.MIN_VALUE, 65537};
-        for (int type : never) {
-            Check.due("put(" + type + ")", desk.put("a.", type, 1, Desk.bytes(1, 1, 1, 1)), BAD);
-            Check.due("take(" + type + ")", desk.take("a.", type, Desk.bytes(1, 1, 1, 1)), BAD);
-        }
-        int[] some = {1, 3, 4, 7, 40, 42, 43, 45, 49, 248, 256, 257, 65535};
-        for (int type : some) {
-            Check.due("put(" + type + ")", desk.put("a.", type, 1, Desk.bytes(1, 1, 1, 1)), 1);
-        }
-        Check.due("sets", desk.zone.count(2), some.length + 1);
-    }
-
-    private static void data(int type, Object due, byte[]... data) {
-        String call = "data of type " + type + " with " + Desk.join(data).length + " bytes";
-        Check.due(call, new Desk().put("n.", type, 1, data), due);
-        Check.due("take, " + call, new Desk().take("n.", type, data), due.equals(1) ? "NoSuchElementException" : due);
-    }
-
-    private static void putData() {
-        data(1, 1, new byte[4]);
-        data(1, BAD, new byte[3]);
-        data(1, BAD, new byte[5]);
-        data(1, BAD);
-        data(28, 1, new byte[16]);
-        data(28, BAD, new byte[15]);
-        data(28, BAD, new byte[17]);
-        for (int type : new int[] {2, 5, 12}) {
-            data(type, 1, Desk.name("a.b."));
-            data(type, 1, Desk.name("."));
-            data(type, BAD);
-            data(type, BAD, Desk.bytes(1, 97));
-            data(type, BAD, Desk.name("a."), new byte[1]);
-        }
-        data(15, 1, new byte[2], Desk.name("a."));
-        data(15, 1, new byte[2], Desk.name("."));
-        data(15, BAD, new byte[2]);
-        data(15, BAD, new byte[1]);
-        data(15, BAD, Desk.name("ab."));
-        data(15, BAD, new byte[3], Desk.name("a."));
-        data(33, 1, new byte[6], Desk.name("a."));
-        data(33, BAD, new byte[6]);
-        data(33, BAD, new byte[5]);
-        data(33, BAD, new byte[7], Desk.name("a."));
-        data(16, 1, Desk.bytes(0));
-        data(16, 1, Desk.bytes(0, 0, 1, 65));
-        data(16, 1, Desk.bytes(255), new byte[255]);
-        data(16, BAD);
-        data(16, BAD, Desk.bytes(1));
-        data(16, BAD, Desk.bytes(0, 2, 1));
-        data(16, BAD, Desk.bytes(255), new byte[254]);
-        data(99, 1);
-        data(99, 1, new byte[300]);
-        lettersInData();
-    }
-
-    private static void lettersInData() {
-        Desk desk = new Desk();
-        desk.put("N.", 15, 1, Desk.bytes(65, 66), Desk.name("AZ[@."));
-        Check.due("names in data come in lower case", desk.put("n.", 15, 1, Desk.bytes(65, 66), Desk.name("az[@.")), 1);
-        Check.due("numbers in data stay", desk.answer("n.", 15, false), "0 | n. 15 1 #4142 az[@. | - | -");
-        Check.due("other numbers are others", desk.put("n.", 15, 1, Desk.bytes(97, 98), Desk.name("az[@.")), 2);
-        Check.due("strings stay", desk.put("n.", 16, 1, Desk.bytes(1, 65)), 1);
-        Check.due("strings once more", desk.put("n.", 16, 1, Desk.bytes(1, 65)), 1);
-        Check.due("strings in lower case are others", desk.put("n.", 16, 1, Desk.bytes(1, 97)), 2);
-        Check.due("33", desk.put("n.", 33, 1, Desk.bytes(65, 65, 65, 65, 65, 65), Desk.name("A.")), 1);
-        Check.due("33 in lower case", desk.put("n.", 33, 1, Desk.bytes(65, 65, 65, 65, 65, 65), Desk.name("a.")), 1);
-        Check.due("33 with others before", desk.put("n.", 33, 1, Desk.bytes(65, 65, 65, 65, 65, 97), Desk.name("a.")), 2);
-        Check.due("what throws leaves the letters", desk.put("n.", 5, 1, Desk.name("BC.")), "UnsupportedOperationException");
-        Check.due("the same tape as another type", desk.zone.put(99, 1), 1);
-        Check.due("its letters", desk.answer("n.", 99, false), "0 | n. 99 1 #02424300 | - | -");
     }
 
     private static Object putRaw(Desk desk, byte[]... tape) {
@@ -186,31 +100,6 @@ public final class RecordsComeAndGoTest {
         desk.takeAll("a.", 5);
         Check.due("1 when 5 went", desk.put("a.", 1, 1, new byte[4]), 1);
         Check.due("count of records", desk.zone.count(1), 4);
-    }
-
-    /** The limit lies beyond the 512 calls that are promised, but is kept all the same. */
-    private static void putFull() {
-        Desk desk = new Desk();
-        for (int i = 1; i < 2000; i++) {
-            desk.put("a.", 1, 1, Desk.bytes(0, 0, i / 256, i));
-        }
-        desk.take("a.", 1, Desk.bytes(0, 0, 0, 1));
-        desk.put("b.", 5, 1, Desk.name("c."));
-        Check.due("count of records", desk.zone.count(1), 2000);
-        Check.due("one more", desk.put("a.", 1, 1, Desk.bytes(9, 9, 9, 9)), "IllegalStateException");
-        Check.due("one more beside 5", desk.put("b.", 1, 1, Desk.bytes(9, 9, 9, 9)), "IllegalStateException");
-        Check.due("a wrong one more", desk.put("b.", 1, 1, Desk.bytes(9)), BAD);
-        Check.due("one that is there", desk.put("a.", 1, 2, Desk.bytes(0, 0, 0, 2)), 1998);
-        Check.due("one goes", desk.take("a.", 1, Desk.bytes(0, 0, 0, 2)), 1997);
-        Check.due("one comes", desk.put("a.", 1, 1, Desk.bytes(9, 9, 9, 9)), 1998);
-    }
-
-    private static void putOrderOfExceptions() {
-        Desk desk = new Desk();
-        desk.put("a.", 5, 1, Desk.name("b."));
-        Check.due("time below 0 beside 5", desk.put("a.", 1, -5, new byte[4]), BAD);
-        Check.due("wrong data beside 5", desk.put("a.", 1, 5, new byte[5]), BAD);
-        Check.due("wrong type beside 5", desk.put("a.", 47, 5, new byte[4]), BAD);
     }
 
     private static void take() {

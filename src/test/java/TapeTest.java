@@ -1,12 +1,7 @@
 /** Promises 1, 2 and 3: a new object, feed, end; and what leaves the tape empty. */
 public final class TapeTest {
-    public static void main(String[] args) {
-        newObject();
-        feed();
-        fullTape();
-        end();
-        whatTakesTheTape();
-        Check.end();
+    public static void main(String[] args) throws IllegalAccessException {
+        Check.all(TapeTest.class);
     }
 
     private static void newObject() {
@@ -39,36 +34,6 @@ public final class TapeTest {
         for (int i = 0; i < due.length; i++) {
             Check.due("byteOf(1, 0, " + i + ")", zone.byteOf(1, 0, i), due[i]);
         }
-    }
-
-    private static void fullTape() {
-        ZoneAnswers zone = new ZoneAnswers();
-        for (int i = 1; i <= 3276; i++) {
-            Check.due("feed " + i, zone.feed(i, i, i, i, i), 20 * i);
-        }
-        Check.due("feed with room for 16", Check.of(() -> zone.feed(0, 0, 0, 0, 0)), "IllegalStateException");
-        Check.due("the tape stays", zone.count(0), 65520);
-        zone.end(65517);
-        Check.due("feed with room for 19", Check.of(() -> zone.feed(0, 0, 0, 0, 0)), "IllegalStateException");
-        zone.end(65516);
-        Check.due("feed with room for 20", Check.of(() -> zone.feed(0, 0, 0, 0, 0)), 65536);
-        Check.due("feed without room", Check.of(() -> zone.feed(0, 0, 0, 0, 0)), "IllegalStateException");
-        Check.due("end(65536)", Check.of(() -> zone.end(65536)), 65536);
-        Check.due("end(65537)", Check.of(() -> zone.end(65537)), "IllegalArgumentException");
-    }
-
-    private static void end() {
-        ZoneAnswers zone = new ZoneAnswers();
-        Check.due("end(0) of none", Check.of(() -> zone.end(0)), 0);
-        Check.due("end(1) of none", Check.of(() -> zone.end(1)), "IllegalArgumentException");
-        zone.feed(1, 2, 3, 4, 5);
-        Check.due("end(20)", Check.of(() -> zone.end(20)), 20);
-        Check.due("end(21)", Check.of(() -> zone.end(21)), "IllegalArgumentException");
-        Check.due("end(-1)", Check.of(() -> zone.end(-1)), "IllegalArgumentException");
-        Check.due("what throws changes nothing", zone.count(0), 20);
-        Check.due("end(19)", Check.of(() -> zone.end(19)), 19);
-        Check.due("end(20) then", Check.of(() -> zone.end(20)), "IllegalArgumentException");
-        Check.due("feed goes on from there", zone.feed(1, 2, 3, 4, 5), 39);
     }
 
     private static void whatTakesTheTape() {
