@@ -123,6 +123,21 @@ public final class TermsEdgesTest {
         Check.due("a length of 192 that, with a sign, leads back to a label and on to the 0", refusedBy(pointsBack), "all");
     }
 
+    /** "a.b." and the one label of three bytes, 'a', 1 and 'b', differ in their first length alone. */
+    private static void lengthsTellNamesApart() {
+        Check.sentence("labels ..., each with its length before it (other lengths are other names)");
+        Desk desk = new Desk();
+        desk.put("a.b.", 99, 1);
+        Check.due("state", desk.state("a\u0001b."), 1);
+        Check.due("ask", desk.ask("a\u0001b.", 99, false), 3);
+        Check.due("take", desk.take("a\u0001b.", 99), "NoSuchElementException");
+        Check.due("takeAll", desk.takeAll("a\u0001b.", 99), 0);
+        Check.due("put", desk.put("a\u0001b.", 99, 1), 1);
+        Check.due("names with records", desk.zone.count(3), 3);
+        Check.due("it goes", desk.take("a\u0001b.", 99), 0);
+        Check.due("the other stays", desk.state("a.b."), 3);
+    }
+
     private static void zeroAtTheEnd() {
         Check.sentence("each with its length before it, and a 0 at the end");
         Check.due("only the 0", refusedBy(Desk.bytes(0)), "none");
